@@ -148,7 +148,9 @@ public final class PagerHouse {
         if (body == null) {
             return 0;
         }
-        bring(body);
+        if (body.frame == NONE) {
+            bring(body, take(NONE));
+        }
         used[body.frame] = true;
         return frames.words[body.frame * WORDS + address % WORDS];
     }
@@ -312,33 +314,32 @@ public final class PagerHouse {
     /** The body in a frame that a page may write to: a new one, the one it has, or a copy of it. */
     private Body ownBody(Body shared, int page) {
         if (shared == null) {
-            return newBody(page, NONE);
+            return newBody(page, take(NONE));
         }
-        bring(shared);
-        return shared.holders > 1 ? copyBody(shared) : shared;
+        if (shared.frame == NONE) {
+            bring(shared, take(NONE));
+        }
+        return shared.holders > 1 ? copyBody(shared, take(shared.frame)) : shared;
     }
 
-    private Body newBody(int page, int kept) {
+    private Body newBody(int page, int f) {
         Body body = new Body(page);
-        lay(body, take(kept));
-        frames.zero(body.frame);
+        lay(body, f);
+        frames.zero(f);
         return body;
     }
 
-    private Body copyBody(Body shared) {
-        Body copy = newBody(shared.pageNumber, shared.frame);
-        frames.copyWords(copy.frame, frames, shared.frame);
+    private Body copyBody(Body shared, int f) {
+        Body copy = newBody(shared.pageNumber, f);
+        frames.copyWords(f, frames, shared.frame);
         shared.holders--;
         copies++;
         return copy;
     }
 
-    private void bring(Body body) {
-        if (body.frame != NONE) {
-            return;
-        }
-        lay(body, take(NONE));
-        frames.copyWords(body.frame, sectors, body.sector);
+    private void bring(Body body, int f) {
+        lay(body, f);
+        frames.copyWords(f, sectors, body.sector);
         brought++;
     }
 

@@ -18,6 +18,7 @@ public final class PromisesTest {
         forkNone();
         end();
         endSharesAndFrees();
+        widestNeighbours();
         read();
         readBringsBySecondChance();
         readWrong();
@@ -237,6 +238,31 @@ public final class PromisesTest {
         dueWrite(x, 1, 0, 9, 0);
         due("end(1)", x.end(1), true);
         dueLook(x, 0, 3, 0, 0, 0, 0, 3, 2, 0, 0, 0);
+    }
+
+    private static void widestNeighbours() {
+        promise = "3 and 4 with 32 pages";
+        PagerHouse x = new PagerHouse(16, 0);
+        for (int process = 0; process < 7; process++) {
+            due("begin(32)", x.begin(32), process);
+        }
+        for (int process = 0; process < 7; process++) {
+            dueWrite(x, process, 0, 10 + process, 1);
+            dueWrite(x, process, 511, 20 + process, 1);
+        }
+        due("fork(6)", x.fork(6), 7);
+        due("end(3)", x.end(3), true);
+        due("fork(7)", x.fork(7), 3);
+        dueRead(x, 4, 0, 14);
+        duePage(x, 4, 0, 8, NONE, 1, 1);
+        duePage(x, 3, 31, 13, NONE, 3, 1);
+        due("end(2)", x.end(2), true);
+        due("end(7)", x.end(7), true);
+        duePage(x, 3, 0, 12, NONE, 2, 1);
+        dueRead(x, 3, 0, 16);
+        dueRead(x, 3, 511, 26);
+        dueRead(x, 1, 511, 21);
+        dueLook(x, 6, 6, 0, 0, 10, 10);
     }
 
     private static void read() {
