@@ -408,6 +408,7 @@ public final class ModelTest {
     }
 
     public static void main(String[] args) {
+        Watchdog.start();
         for (int seed = 0; seed < RUNS; seed++) {
             run(seed);
         }

@@ -11,6 +11,7 @@ public final class PromisesTest {
     private static String promise = "";
 
     public static void main(String[] args) {
+        Watchdog.start();
         newObject();
         newObjectLimits();
         begin();
