@@ -254,6 +254,19 @@ public final class PromiseEdgesTest {
             page 2 31 = 0 NONE 1 1
             page 2 0 = NONE NONE 0 0
             """);
+        Script.sentence("3: its PAGES are of the same BODIES, all 32; the neighbours keep theirs", """
+            new 16 0
+            """, Script.each(0, 6, "begin 32 = %d"), Script.each(0, 6, "write %d 0 1%d = 1"),
+            Script.each(0, 6, "write %d 511 2%d = 1"), """
+            fork 6 = 7
+            end 1 = true
+            fork 2 = 1
+            page {0..7} 0 2 = 1 2 2 1 1 1 2 2
+            page {0..7} 31 2 = 1 2 2 1 1 1 2 2
+            read {0..7} 0 = 10 12 12 13 14 15 16 16
+            read {0..7} 511 = 20 22 22 23 24 25 26 26
+            bodies = 12
+            """);
     }
 
     private static void forkShares() {
